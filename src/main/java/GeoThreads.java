@@ -695,9 +695,11 @@ public final class GeoThreads {
 
         private void giveTurn(int thread) {
             turns++;
+            int before = left;
             if (held[thread] == NONE) takeNext(thread);
             else goOnWith(held[thread], thread);
-            lookWhatIsTaken();
+            // only what ends can make a way the first one that is proved
+            if (left < before) lookWhatIsTaken();
         }
 
         private void takeNext(int thread) {

@@ -121,6 +121,21 @@ public final class AnswersTest {
         due.is("equal(7)", x.equal(7), BAD);
         due.is("equal(-1)", x.equal(-1), BAD);
         due.is("of a new one", new GeoThreads(1, 0).equal(6), 1);
+        GeoThreads y = new GeoThreads(1, 0);
+        y.way(false, 9, 1, 0, 0, 9);
+        y.way(false, 1, 2, 0, 0, 9);
+        y.way(false, 9, 3, 1, 0, 9);
+        due.is("ways behind the taken one may end otherwise", y.equal(3), 1);
+        y.grid(2, 2, 4);
+        y.line(0, 0, 13);
+        Ask.fill(y, 0, 1, 3, 3, 3, 3);
+        y.search(0, 2, 3, 4);
+        y.share(0, 0, 9, 0, 9);
+        y.share(0, 1, 2, 0, 1);
+        y.share(0, 1, 3, 0, 1);
+        y.turn(0);
+        due.is("shares that are proved, failed, spent", y.equal(4), 1);
+        due.is("no run by it", y.count(8), 0);
     }
 
     /** Everything that can be asked is as it was, and the run goes on as it would have. */

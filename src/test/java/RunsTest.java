@@ -330,6 +330,13 @@ public final class RunsTest {
         due.is("run anew", x.run(1000), 1);
         due.are("the same notes", Ask.notes(x), notes);
         x.anew();
+        x.run(7);
+        due.are("amid lines", Ask.states(x), 3, 1, 0);
+        x.anew();
+        due.is("run anew", x.run(1000), 1);
+        due.are("as from the beginning", Ask.told(x, 1), careful);
+        due.is("the same answer", x.answer(1), 0);
+        x.anew();
         x.put(0, 1, 0, 8);
         x.run(1000);
         due.is("what was put between", x.answer(1), 8);
