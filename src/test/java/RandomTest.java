@@ -2,7 +2,8 @@ import java.util.Random;
 
 /** Random runs of calls, each answer compared with the model's; a call that throws ends the test. */
 public final class RandomTest {
-    private static final int OBJECTS = 6000, CALLS = 512;
+    /** An object is good for 512 calls: going on asks 5 of it at most, asking 33. */
+    private static final int OBJECTS = 30000, CALLS = 512, CALLS_TO_GO = 5, CALLS_TO_ASK = 33;
     private static final Due due = new Due();
 
     private final Random random;
@@ -58,9 +59,9 @@ public final class RandomTest {
     private int oneRound(int most) {
         int calls = 0;
         for (int i = pick(0, 60); i > 0 && calls < most; i--, calls++) tell();
-        for (int i = pick(1, 40); i > 0 && calls < most; i--, calls++) go();
-        for (int i = pick(20, 80); i > 0 && calls < most; i--, calls++) ask();
-        return calls;
+        for (int i = pick(1, 30); i > 0 && calls + CALLS_TO_GO <= most; i--, calls += CALLS_TO_GO) go();
+        for (int i = pick(1, 3); i > 0 && calls + CALLS_TO_ASK <= most; i--, calls += CALLS_TO_ASK) ask();
+        return Math.max(1, calls);
     }
 
     private void tell() {
@@ -157,7 +158,7 @@ public final class RandomTest {
                 if (y.count(8) > 1 || rarely()) due.is("anew", x.anew(), y.anew());
                 break;
             case 4:
-                if (rarely()) {
+                if (random.nextInt(3) == 0) {
                     int n = near(1, 1000);
                     due.is("run", x.run(n), y.run(n));
                 }
@@ -176,7 +177,8 @@ public final class RandomTest {
             }
         }
         due.is("taken", x.taken(), y.taken());
-        for (int i = 0; i < 9; i++) due.is("count " + i, x.count(i), y.count(i));
+        int[] counts = {3, 7, 8};
+        for (int what : counts) due.is("count " + what, x.count(what), y.count(what));
     }
 
     private void ask() {

@@ -1,11 +1,24 @@
+import java.io.IOException;
+import java.nio.file.Files;
+import java.nio.file.Path;
+
 /** Compares answers with those that are due, and tells the ones that differ. */
 final class Due {
+    private static final Path DOCUMENT = Path.of("..", "shared", "DOC.md");
+
     private int wrong;
     private int asked;
     private String part = "";
+    private String document;
 
     void part(String name) {
         part = name;
+    }
+
+    /** What is asked from here on stands for a sentence of the document, which must say just that. */
+    void sentence(String quoted) {
+        part = quoted;
+        is("stands in " + DOCUMENT, document().contains(inOneLine(quoted)) ? 1 : 0, 1);
     }
 
     void is(String call, long got, long want) {
@@ -24,5 +37,19 @@ final class Due {
     void end() {
         System.out.println(asked + " answers looked at, " + wrong + " not as due");
         if (wrong != 0) System.exit(1);
+    }
+
+    private String document() {
+        if (document != null) return document;
+        try {
+            document = inOneLine(Files.readString(DOCUMENT));
+        } catch (IOException e) {
+            document = "";
+        }
+        return document;
+    }
+
+    private static String inOneLine(String text) {
+        return text.replaceAll("\\s+", " ");
     }
 }
