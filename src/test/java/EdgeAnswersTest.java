@@ -114,7 +114,7 @@ public final class EdgeAnswersTest {
     }
 
     private static void toldOfARun() {
-        due.sentence("2 the FAULT by which it FAILED (0), 3 STEPS, 4 TURNS that it had (as it was taken, for each STEP, as it was left), 5 PARTS that it did, 6 its THREAD (NONE: none had it), 7 LINES that are LOST");
+        due.sentence("Of a TASK: 0 its sort, 1 its STATE, 2 the FAULT by which it FAILED (0), 3 STEPS, 4 TURNS that it had (as it was taken, for each STEP, as it was left), 5 PARTS that it did, 6 its THREAD (NONE: none had it), 7 LINES that are LOST");
         GeoThreads x = eachEnd();
         due.are("FAILED", Ask.told(x, 0), 0, FAILED, 7, 1, 2, 1, 0, 0, 10);
         due.are("SPENT", Ask.told(x, 1), 0, SPENT, 0, 1, 2, 1, 0, 0, 10);

@@ -245,8 +245,18 @@ public final class EdgeRunsTest {
         z.turn(0);
         z.run(3);
         due.is("not by a share's step", z.taken(), NONE);
-        due.is("over", z.run(1000), 1);
-        due.is("a share below is no way", z.taken(), 1);
+        z.run(1);
+        due.is("a share below that is UNDER WAY is no way", z.taken(), 1);
+        due.are("states", Ask.states(z), UNDER_WAY, PROVED, STOPPED);
+        GeoThreads u = new GeoThreads(2, 4);
+        u.grid(0, 1, 12);
+        u.search(0, 0, 1, 1);
+        u.share(0, 0, 1, 4, 9);
+        u.share(0, 0, 1, 4, 9);
+        u.way(false, 1, 1, 0, 0, 9);
+        u.run(4);
+        due.is("nor is one that WAITS", u.taken(), 2);
+        due.are("states", Ask.states(u), UNDER_WAY, WAITS, PROVED);
         onceAlone();
     }
 

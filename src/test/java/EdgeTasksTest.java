@@ -95,7 +95,7 @@ public final class EdgeTasksTest {
     }
 
     private static void eightSearches() {
-        due.sentence("SEARCHES (8 at most)");
+        due.sentence("SEARCHES (8 at most): through a GRID as a KIND, with a DIVISOR and a LIMIT");
         GeoThreads x = new GeoThreads(1, 0);
         x.grid(0, 1, 1);
         x.put(0, 0, 0, 70);
