@@ -15,6 +15,10 @@ public final class SentencesTest {
     public static void main(String[] args) throws IOException {
         Due due = new Due();
         due.part("sentences without a test");
+        if (!Files.exists(Due.DOCUMENT)) {
+            System.out.println("not looked at: there is no " + Due.DOCUMENT);
+            return;
+        }
         String text = promised();
         BitSet named = new BitSet();
         try (DirectoryStream<Path> tests = Files.newDirectoryStream(Path.of("src", "test", "java"), "*.java")) {
@@ -33,7 +37,7 @@ public final class SentencesTest {
 
     /** Terms and promises, without headings, fences, signatures, and what is said of the interface's headings. */
     private static String promised() throws IOException {
-        String document = Files.readString(Path.of("..", "shared", "DOC.md"));
+        String document = Files.readString(Due.DOCUMENT);
         String part = document.substring(document.indexOf("## Terms"), document.indexOf("## Not promised"));
         return part.replaceAll("(?m)^(#|```|Ahead of the calls).*$", "").replaceAll("(?m)^`[^`]*`:", "")
             .replaceAll("\\s+", " ");
